@@ -1854,7 +1854,9 @@ public final class OpenSaying {
             }
             for (int size = 0; size <= KINDS; size++) {
                 for (int kinds = 0; kinds < 1 << KINDS; kinds++) {
-                    if (Integer.bitCount(kinds) == size && (endless(kinds) & inUse) == 0) {
+                    // To close a kind that no word has would be in vain.
+                    if (Integer.bitCount(kinds) == size && (kinds & ~museum.kindsTold) == 0
+                            && (endless(kinds) & inUse) == 0) {
                         return kinds;
                     }
                 }
@@ -1867,7 +1869,11 @@ public final class OpenSaying {
             lookBehind(closedKinds);
             int going = allStates();
             for (int words = 0; words < museum.states; words++) {
-                going = leadingInto(going, going);
+                int on = leadingInto(going, going);
+                if (on == going) {
+                    return going;
+                }
+                going = on;
             }
             return going;
         }

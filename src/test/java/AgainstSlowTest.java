@@ -56,8 +56,22 @@ public final class AgainstSlowTest {
             if (random.nextInt(100) == 0) {
                 compare(NAMES[random.nextInt(2)], 0);
             }
+            if (random.nextInt(80) == 0) {
+                undoAndShow(random.nextInt(50));
+            }
         }
         return wrong;
+    }
+
+    private void undoAndShow(int times) {
+        for (int i = 0; i < times; i++) {
+            compare("undo", 0);
+        }
+        for (int saying = 0; saying < slow.count(3); saying++) {
+            for (int i = -3; i <= 40; i++) {
+                compare("saying", saying, i);
+            }
+        }
     }
 
     private void tell(String text) {

@@ -303,6 +303,9 @@ public final class QuestionsTest {
         OpenSaying far = Checks.of(LOOP + "saying 0" + " 0".repeat(40) + ";saying 0" + " 1".repeat(40) + ";");
         Checks.due(40, () -> far.alike(0, 1));
         Checks.due(1, () -> far.nearest());
+        OpenSaying empty = Checks.of(LOOP + "saying 0;saying 0" + " 0".repeat(40) + ";");
+        Checks.due(40, () -> empty.alike(0, 1));
+        Checks.due(40, () -> empty.alike(1, 0));
     }
 
     private static void culprits() {
@@ -523,6 +526,7 @@ public final class QuestionsTest {
             Checks.due(0, () -> x.count(5));
             x.forget();
         }
+        imagesOfActsAndSeen();
         x.image();
         x.day();
         Checks.due(1, () -> x.restore() ? 1 : 0);
@@ -534,5 +538,34 @@ public final class QuestionsTest {
         Checks.due(0, () -> Checks.tell(x, "state;"));
         Checks.due(0, () -> x.restore() ? 1 : 0);
         Checks.due(0, () -> x.count(3));
+    }
+
+    /** What comes behind the image overwrites every act and all that is seen, and it all comes back. */
+    private static void imagesOfActsAndSeen() {
+        OpenSaying x = Checks.of(LOOP + "saying 0 0;saying 0;habit word=1;habit 1;law long<1 or word=0;");
+        x.see(1, 2);
+        x.take(0, 0);
+        x.fly(1, 0, 2);
+        x.take(1, 0);
+        x.image();
+        x.undo();
+        x.undo();
+        x.undo();
+        x.forget();
+        x.see(0, 1);
+        x.day();
+        x.fly(0, 1, 1);
+        x.take(0, 0);
+        Checks.due(0, () -> x.who(0));
+        Checks.due(1, () -> x.restore() ? 1 : 0);
+        Checks.due(2, () -> x.who(0));
+        Checks.due(0, () -> x.saying(0, NONE));
+        Checks.due(2, () -> x.undo());
+        Checks.due(2, () -> x.saying(1, 0));
+        Checks.due(1, () -> x.undo());
+        Checks.due(0, () -> x.saying(1, NONE));
+        Checks.due(0, () -> x.undo());
+        Checks.due(0, () -> x.saying(0, 0));
+        Checks.due(1, () -> x.saying(0, NONE));
     }
 }

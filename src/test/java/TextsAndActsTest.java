@@ -394,6 +394,8 @@ public final class TextsAndActsTest {
         Checks.due(0, () -> first.may(0));
         OpenSaying rhyme = Checks.of("state;word ab 0;word b 0;word ba 0;arc 0 0 0;saying 0 0;law rhymes;");
         Checks.due(3, () -> rhyme.may(0));
+        OpenSaying nine = Checks.of("state;word abcdefghi 0;word i 0;word a 0;arc 0 0 0;saying 0 0;law rhymes;");
+        Checks.due(3, () -> nine.may(0));
     }
 
     private static void dueByLaw(int want, String law) {
@@ -515,5 +517,38 @@ public final class TextsAndActsTest {
         Checks.due(NONE, () -> y.undo());
         dueRow(y, 0, 1);
         Checks.due(0, () -> y.count(5));
+        undoingManyKinds();
+    }
+
+    /** 45 acts of every kind on two sayings: 40 of them can be undone, each as it was done. */
+    private static void undoingManyKinds() {
+        OpenSaying x = Checks.of(LOOP + "saying 0 0 1;saying 0 2;");
+        StringBuilder[] done = {new StringBuilder("01"), new StringBuilder("2")};
+        String[] told = new String[46];
+        told[0] = "01 2";
+        for (int i = 1; i <= 45; i++) {
+            int saying = i / 2 % 2;
+            StringBuilder row = done[saying];
+            int place = i * 7 % (row.length() + 1);
+            if (i % 4 == 3 && place < row.length()) {
+                x.take(saying, place);
+                row.deleteCharAt(place);
+            } else if (i % 5 == 0) {
+                x.add(saying, i % 3);
+                row.append(i % 3);
+            } else {
+                x.fly(saying, place, i % 3);
+                row.insert(place, i % 3);
+            }
+            told[i] = done[0] + " " + done[1];
+        }
+        for (int i = 44; i >= 5; i--) {
+            int left = i - 5;
+            Checks.due(left, () -> x.undo());
+            String[] rows = told[i].split(" ", -1);
+            dueRow(x, 0, rows[0].chars().map(c -> c - '0').toArray());
+            dueRow(x, 1, rows[1].chars().map(c -> c - '0').toArray());
+        }
+        Checks.due(NONE, () -> x.undo());
     }
 }
