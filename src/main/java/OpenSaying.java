@@ -1063,7 +1063,7 @@ public final class OpenSaying {
                 tokens.next();
             }
             museum.putState(end);
-            return passSign(';');
+            return passLineEnd();
         }
 
         private boolean readWord() {
@@ -1090,7 +1090,7 @@ public final class OpenSaying {
             }
             museum.putWord(length, tokens.number());
             tokens.next();
-            return passSign(';');
+            return passLineEnd();
         }
 
         private boolean isToldRow() {
@@ -1138,7 +1138,7 @@ public final class OpenSaying {
             }
             museum.putArc(state, kind, tokens.number());
             tokens.next();
-            return passSign(';');
+            return passLineEnd();
         }
 
         private boolean readCost() {
@@ -1156,7 +1156,7 @@ public final class OpenSaying {
             }
             museum.putPrice(kind, tokens.number());
             tokens.next();
-            return passSign(';');
+            return passLineEnd();
         }
 
         private boolean readSaying() {
@@ -1180,7 +1180,7 @@ public final class OpenSaying {
                 gallery.putIn(saying, i, tokens.number());
                 tokens.next();
             }
-            return passSign(';');
+            return passLineEnd();
         }
 
         private boolean isWordOfSaying(int saying, int state) {
@@ -1220,7 +1220,7 @@ public final class OpenSaying {
                 return false;
             }
             museum.rules.end(rule);
-            return passSign(';');
+            return passLineEnd();
         }
 
         private boolean readExpr(int nested) {
@@ -1331,9 +1331,13 @@ public final class OpenSaying {
         private boolean readPart(int nested) {
             if (tokens.isSign('(')) {
                 tokens.next();
-                return readExpr(nested + 1) && passSign(')');
-            }
-            if (tokens.type == Tokens.WORD) {
+                if (!readExpr(nested + 1)) {
+                    return false;
+                }
+                if (!tokens.isSign(')')) {
+                    return refuse(CANNOT_STAND);
+                }
+            } else if (tokens.type == Tokens.WORD) {
                 int value = valueNamed();
                 if (value == NONE) {
                     return refuse(NOT_TOLD);
@@ -1371,8 +1375,8 @@ public final class OpenSaying {
             return tokens.isWord("rhymes") ? Rules.RHYMES : NONE;
         }
 
-        private boolean passSign(char sign) {
-            if (!tokens.isSign(sign)) {
+        private boolean passLineEnd() {
+            if (!tokens.isSign(';')) {
                 return refuse(CANNOT_STAND);
             }
             tokens.next();

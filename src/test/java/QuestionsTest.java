@@ -544,7 +544,7 @@ public final class QuestionsTest {
     private static void imagesOfActsAndSeen() {
         OpenSaying x = Checks.of(LOOP + "saying 0 0;saying 0;habit word=1;habit 1;law long<1 or word=0;");
         x.see(1, 2);
-        x.take(0, 0);
+        x.fly(0, 1, 1);
         x.fly(1, 0, 2);
         x.take(1, 0);
         x.image();
@@ -554,12 +554,13 @@ public final class QuestionsTest {
         x.forget();
         x.see(0, 1);
         x.day();
-        x.fly(0, 1, 1);
         x.take(0, 0);
-        Checks.due(0, () -> x.who(0));
+        x.fly(1, 0, 1);
+        Checks.due(3, () -> x.who(0));
         Checks.due(1, () -> x.restore() ? 1 : 0);
         Checks.due(2, () -> x.who(0));
-        Checks.due(0, () -> x.saying(0, NONE));
+        Checks.due(2, () -> x.saying(0, NONE));
+        Checks.due(1, () -> x.saying(0, 1));
         Checks.due(2, () -> x.undo());
         Checks.due(2, () -> x.saying(1, 0));
         Checks.due(1, () -> x.undo());
