@@ -465,7 +465,7 @@ public final class OpenSaying {
         static final int TIMES = -15;
         static final int BY = -16;
 
-        // Six kinds of joins wait at most in each of six nested rules: far less than this.
+        // In each of six nested rules five joins can wait for what is right of them: far less than this.
         private static final int STACK = 64;
 
         int visitors;

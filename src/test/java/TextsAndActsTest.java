@@ -390,6 +390,11 @@ public final class TextsAndActsTest {
         dueByLaw(7, "7/(word-word)+1=1");
         dueByLaw(7, "9999*9999*9999<0");
         dueByLaw(7, "9999*9999*9999/9999=0-9999*10-2755");
+        // As many joins wait as ever can; each level turns 0 into 1 and 1 into 0.
+        String join = "0 or 1 and 1=1+1*(";
+        dueByLaw(7, join.repeat(5) + "0" + ")".repeat(5));
+        dueByLaw(0, join.repeat(4) + "0" + ")".repeat(4));
+        dueByLaw(0, join.repeat(5) + "0 or 1 and 2=1+1*1" + ")".repeat(5));
         OpenSaying first = Checks.of(LOOP + "saying 0;law rhymes or same or long;");
         Checks.due(0, () -> first.may(0));
         OpenSaying rhyme = Checks.of("state;word ab 0;word b 0;word ba 0;arc 0 0 0;saying 0 0;law rhymes;");
