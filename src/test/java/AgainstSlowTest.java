@@ -1,22 +1,15 @@
 import java.util.ArrayList;
 import java.util.List;
-import java.util.NoSuchElementException;
 import java.util.Random;
 
 /** Random museums, faulty texts and calls: the class and its slow twin must answer alike. */
 public final class AgainstSlowTest {
-    private static final String[] NAMES = {"feed", "museum", "fault", "count", "letter", "kind", "arc",
-        "saying", "may", "add", "fly", "take", "day", "undo", "open", "soonest", "must", "ways", "turn",
-        "costs", "closed", "odds", "see", "forget", "who", "begun", "alike", "nearest", "culprit",
-        "season", "crimes", "doors", "far", "days", "mend", "shared", "about", "often", "cost", "image",
-        "restore"};
-    private static final long REFUSED = Long.MIN_VALUE;
+    private static final String[] NAMES = Twins.NAMES;
     private static final int[] MANY = {9, 10, 11, 9, 10, 9, 12};
 
     private final Random random;
     private final List<String> log = new ArrayList<>();
-    private OpenSaying fast = new OpenSaying();
-    private SlowMuseum slow = new SlowMuseum();
+    private final Twins twins = new Twins();
     private int wrong;
     private static final int[] faultsFound = new int[7];
     private static int calls;
@@ -67,7 +60,7 @@ public final class AgainstSlowTest {
         for (int i = 0; i < times; i++) {
             compare("undo", 0);
         }
-        for (int saying = 0; saying < slow.count(3); saying++) {
+        for (int saying = 0; saying < twins.slow.count(3); saying++) {
             for (int i = -3; i <= 40; i++) {
                 compare("saying", saying, i);
             }
@@ -81,8 +74,8 @@ public final class AgainstSlowTest {
         }
         log.add("TEXT " + text);
         // What odd calls have left on the tape is thrown away.
-        fast.museum(0);
-        slow.museum(0);
+        twins.fast.museum(0);
+        twins.slow.museum(0);
         java.nio.IntBuffer ints = java.nio.ByteBuffer.wrap(bytes).asIntBuffer();
         while (ints.hasRemaining()) {
             compare("feed", ints.get(), ints.get(), ints.get(), ints.get(), ints.get());
@@ -109,8 +102,8 @@ public final class AgainstSlowTest {
         }
         boolean flag = random.nextBoolean();
         calls++;
-        long got = fastAnswer(name, a, flag);
-        long want = slowAnswer(name, a, flag);
+        long got = twins.fastAnswer(name, a, flag);
+        long want = twins.slowAnswer(name, a, flag);
         log.add(name + java.util.Arrays.toString(a) + flag + " -> " + want);
         if (got != want) {
             wrong++;
@@ -121,9 +114,9 @@ public final class AgainstSlowTest {
     }
 
     private int[] arguments(String name) {
-        int states = slow.count(0);
-        int words = slow.count(1);
-        int sayings = slow.count(3);
+        int states = twins.slow.count(0);
+        int words = twins.slow.count(1);
+        int sayings = twins.slow.count(3);
         int two = near(2);
         return switch (name) {
             case "feed" -> new int[] {random.nextInt(), random.nextInt(), random.nextInt(), 0, -1};
@@ -141,7 +134,7 @@ public final class AgainstSlowTest {
             case "ways" -> new int[] {near(states), random.nextInt(15) - 1, 0, 0, 0};
             case "turn" -> new int[] {near(states), two, 0, 0, 0};
             case "costs" -> new int[] {near(states), random.nextInt(63) - 1, random.nextInt(44) - 2, 0, 0};
-            case "odds" -> new int[] {near(slow.count(4)), near(sayings), near(words), two, 0};
+            case "odds" -> new int[] {near(twins.slow.count(4)), near(sayings), near(words), two, 0};
             case "who" -> new int[] {two, 0, 0, 0, 0};
             case "alike" -> new int[] {near(sayings), near(sayings), 0, 0, 0};
             case "culprit" -> new int[] {near(sayings), two, 0, 0, 0};
@@ -151,111 +144,5 @@ public final class AgainstSlowTest {
             case "often" -> new int[] {near(sayings), near(8), 0, 0, 0};
             default -> new int[] {0, 0, 0, 0, 0};
         };
-    }
-
-    private long fastAnswer(String name, int[] a, boolean flag) {
-        try {
-            return switch (name) {
-                case "feed" -> fast.feed(a[0], a[1], a[2], a[3], a[4]);
-                case "museum" -> fast.museum(a[0]);
-                case "fault" -> fast.fault();
-                case "count" -> fast.count(a[0]);
-                case "letter" -> fast.letter(a[0], a[1]);
-                case "kind" -> fast.kind(a[0]);
-                case "arc" -> fast.arc(a[0], a[1]);
-                case "saying" -> fast.saying(a[0], a[1]);
-                case "may" -> fast.may(a[0]);
-                case "add" -> fast.add(a[0], a[1]);
-                case "fly" -> fast.fly(a[0], a[1], a[2]);
-                case "take" -> fast.take(a[0], a[1]);
-                case "day" -> fast.day();
-                case "undo" -> fast.undo();
-                case "open" -> fast.open(a[0]);
-                case "soonest" -> fast.soonest(a[0], a[1]);
-                case "must" -> fast.must(a[0]);
-                case "ways" -> fast.ways(a[0], a[1], flag);
-                case "turn" -> fast.turn(a[0], a[1]);
-                case "costs" -> fast.costs(a[0], a[1], a[2]);
-                case "closed" -> fast.closed();
-                case "odds" -> fast.odds(a[0], a[1], a[2], a[3]);
-                case "see" -> fast.see(a[0], a[1]);
-                case "forget" -> { fast.forget(); yield 0; }
-                case "who" -> fast.who(a[0]);
-                case "begun" -> fast.begun(a[0]);
-                case "alike" -> fast.alike(a[0], a[1]);
-                case "nearest" -> fast.nearest();
-                case "culprit" -> fast.culprit(a[0], a[1]);
-                case "season" -> fast.season(a[0], a[1], a[2]);
-                case "crimes" -> fast.crimes(a[0]);
-                case "doors" -> fast.doors(a[0]);
-                case "far" -> fast.far(a[0], a[1]);
-                case "days" -> fast.days(a[0], a[1]);
-                case "mend" -> fast.mend(a[0], a[1]);
-                case "shared" -> fast.shared(a[0], a[1], a[2]);
-                case "about" -> fast.about(a[0]);
-                case "often" -> fast.often(a[0], a[1]);
-                case "cost" -> fast.cost(a[0]);
-                case "image" -> { fast.image(); yield 0; }
-                case "restore" -> fast.restore() ? 1 : 0;
-                default -> throw new AssertionError(name);
-            };
-        } catch (NoSuchElementException e) {
-            return REFUSED;
-        } catch (IllegalArgumentException e) {
-            return REFUSED + 1;
-        }
-    }
-
-    private long slowAnswer(String name, int[] a, boolean flag) {
-        try {
-            return switch (name) {
-                case "feed" -> slow.feed(a[0], a[1], a[2], a[3], a[4]);
-                case "museum" -> slow.museum(a[0]);
-                case "fault" -> slow.fault();
-                case "count" -> slow.count(a[0]);
-                case "letter" -> slow.letter(a[0], a[1]);
-                case "kind" -> slow.kind(a[0]);
-                case "arc" -> slow.arc(a[0], a[1]);
-                case "saying" -> slow.saying(a[0], a[1]);
-                case "may" -> slow.may(a[0]);
-                case "add" -> slow.add(a[0], a[1]);
-                case "fly" -> slow.fly(a[0], a[1], a[2]);
-                case "take" -> slow.take(a[0], a[1]);
-                case "day" -> slow.day();
-                case "undo" -> slow.undo();
-                case "open" -> slow.open(a[0]);
-                case "soonest" -> slow.soonest(a[0], a[1]);
-                case "must" -> slow.must(a[0]);
-                case "ways" -> slow.ways(a[0], a[1], flag);
-                case "turn" -> slow.turn(a[0], a[1]);
-                case "costs" -> slow.costs(a[0], a[1], a[2]);
-                case "closed" -> slow.closed();
-                case "odds" -> slow.odds(a[0], a[1], a[2], a[3]);
-                case "see" -> slow.see(a[0], a[1]);
-                case "forget" -> { slow.forget(); yield 0; }
-                case "who" -> slow.who(a[0]);
-                case "begun" -> slow.begun(a[0]);
-                case "alike" -> slow.alike(a[0], a[1]);
-                case "nearest" -> slow.nearest();
-                case "culprit" -> slow.culprit(a[0], a[1]);
-                case "season" -> slow.season(a[0], a[1], a[2]);
-                case "crimes" -> slow.crimes(a[0]);
-                case "doors" -> slow.doors(a[0]);
-                case "far" -> slow.far(a[0], a[1]);
-                case "days" -> slow.days(a[0], a[1]);
-                case "mend" -> slow.mend(a[0], a[1]);
-                case "shared" -> slow.shared(a[0], a[1], a[2]);
-                case "about" -> slow.about(a[0]);
-                case "often" -> slow.often(a[0], a[1]);
-                case "cost" -> slow.cost(a[0]);
-                case "image" -> { slow.image(); yield 0; }
-                case "restore" -> slow.restore() ? 1 : 0;
-                default -> throw new AssertionError(name);
-            };
-        } catch (NoSuchElementException e) {
-            return REFUSED;
-        } catch (IllegalArgumentException e) {
-            return REFUSED + 1;
-        }
     }
 }

@@ -1,7 +1,12 @@
+import java.io.IOException;
+import java.io.UncheckedIOException;
 import java.nio.ByteBuffer;
 import java.nio.IntBuffer;
 import java.nio.charset.StandardCharsets;
+import java.nio.file.Files;
+import java.nio.file.Path;
 import java.util.NoSuchElementException;
+import java.util.function.IntToLongFunction;
 import java.util.function.LongSupplier;
 
 /** What the tests of the promises share: telling a text, and comparing what is due. */
@@ -11,12 +16,52 @@ final class Checks {
     private static int checked;
     private static int wrong;
     private static int promise;
+    private static String sentence = "";
+    private static int sentences;
+    private static int checkedAhead;
+    private static String document;
 
     private Checks() {
     }
 
     static void promise(int number) {
         promise = number;
+    }
+
+    /**
+     * Begins the test of one sentence of the document, told in its own words: they must stand there,
+     * and something must have been compared for the sentence ahead of it.
+     */
+    static void sentence(int number, String words) {
+        endSentence();
+        promise = number;
+        sentence = words;
+        sentences++;
+        if (!document().isEmpty() && !document().contains(words)) {
+            wrong++;
+            System.out.println("promise " + number + ": the document does not say: " + words);
+        }
+    }
+
+    private static void endSentence() {
+        if (!sentence.isEmpty() && checked == checkedAhead) {
+            wrong++;
+            System.out.println("promise " + promise + ": nothing was compared for: " + sentence);
+        }
+        checkedAhead = checked;
+    }
+
+    /** Empty where the document is not at hand: then its words are not looked up. */
+    private static String document() {
+        if (document == null) {
+            Path path = Path.of("../shared/DOC.md");
+            try {
+                document = Files.exists(path) ? Files.readString(path).replaceAll("\\s+", " ") : "";
+            } catch (IOException e) {
+                throw new UncheckedIOException(e);
+            }
+        }
+        return document;
     }
 
     static void due(long want, LongSupplier call) {
@@ -59,7 +104,8 @@ final class Checks {
                     at = e;
                 }
             }
-            System.out.println("promise " + promise + ", " + at + ": answered " + got + ", due is " + want);
+            System.out.println("promise " + promise + (sentence.isEmpty() ? "" : " (" + sentence + ")")
+                    + ", " + at + ": answered " + got + ", due is " + want);
         }
     }
 
@@ -95,12 +141,40 @@ final class Checks {
         due(place, () -> x.fault());
     }
 
-    static void dueFine(String text) {
-        dueFault(0, NONE, text);
+    /** The same, with a ^ ahead of the place, which is no part of the text. */
+    static void dueFault(int number, String marked) {
+        int place = marked.indexOf('^');
+        dueFault(number, place, marked.substring(0, place) + marked.substring(place + 1));
+    }
+
+    static void dueFine(String... texts) {
+        for (String text : texts) {
+            dueFault(0, NONE, text);
+        }
+    }
+
+    /** What a call answers for 0, 1 and so on. */
+    static void dueEach(IntToLongFunction call, long... want) {
+        for (int i = 0; i < want.length; i++) {
+            int at = i;
+            due(want[i], () -> call.applyAsLong(at));
+        }
+    }
+
+    /** One saying has these words and no more. */
+    static void dueWords(OpenSaying x, int saying, int... words) {
+        due(words.length, () -> x.saying(saying, NONE));
+        for (int i = 0; i < words.length; i++) {
+            int place = i;
+            due(words[i], () -> x.saying(saying, place));
+        }
+        dueNoSuch(() -> x.saying(saying, words.length));
     }
 
     static void end() {
-        System.out.println(checked + " answers compared, " + wrong + " wrong");
+        endSentence();
+        System.out.println(checked + " answers compared"
+                + (sentences > 0 ? " for " + sentences + " sentences" : "") + ", " + wrong + " wrong");
         System.exit(wrong == 0 ? 0 : 1);
     }
 }
