@@ -158,6 +158,9 @@ public final class StateBoundariesTest {
         Checks.dueEach(n -> x.ways(1, n, false), 1, 1, 2, 2, 4, 4, 8, 8, 16, 16, 32, 32, 64);
         OpenSaying none = Checks.of("state;arc 0 0 0;");
         Checks.dueEach(n -> none.ways(0, n, false), 1, 0, 0);
+        OpenSaying ten = Checks.of(row(10, ""));
+        Checks.dueEach(n -> ten.ways(0, n, false), 1, 1, 1, 1, 1, 1, 1, 1, 1, 1, 0, 0, 0);
+        Checks.dueEach(n -> ten.ways(0, n, true), 0, 0, 0, 0, 0, 0, 0, 0, 0, 1, 0, 0, 0);
         // 14 to the 12th is far more than an int.
         OpenSaying most = Checks.of("state end;word a 0;word b 0;word c 0;word d 0;word e 0;word f 0;word g 0;"
                 + "word h 1;word i 1;word j 1;word k 1;word l 1;word m 1;word n 1;arc 0 0 0;arc 0 1 0;");

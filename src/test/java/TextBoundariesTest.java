@@ -175,6 +175,17 @@ public final class TextBoundariesTest {
         // Where one won and one lost, neither must now.
         Checks.due(0, () -> Checks.tell(x, "state;state;word a 0;arc 0 0 1;arc 1 0 0;"));
         Checks.dueEach(state -> x.turn(state, 0), 0, 0);
+        // A shorter rule, and a shorter row of letters, in the place of a longer one.
+        for (String law : new String[] {"not 1", "1-1", "1*0", "1 and 0"}) {
+            Checks.due(0, () -> Checks.tell(x, LOOP + "saying 0;law " + law + ";"));
+            Checks.due(0, () -> x.may(0));
+            Checks.due(0, () -> Checks.tell(x, LOOP + "saying 0;law 1;"));
+            Checks.due(1, () -> x.may(0));
+        }
+        Checks.due(0, () -> Checks.tell(x, "word abcdefghi 0;word b 0;"));
+        Checks.due(4, () -> Checks.tell(x, "word a 0;word a 0;"));
+        Checks.due(0, () -> Checks.tell(x, "word a 0;word ab 0;"));
+        Checks.due(1, () -> x.letter(0, NONE));
         // As many steps of a rule as a text can tell, one time after the other.
         String law = "law " + "1+".repeat(320) + "long-320;";
         for (int time = 0; time < 3; time++) {
