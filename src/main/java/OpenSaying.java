@@ -992,6 +992,7 @@ public final class OpenSaying {
         private static final int SECOND_LAW = 5;
         private static final int NO_ARC = 6;
         private static final int MOST_DIGITS = 4;
+        private static final int MOST_NUMBER = 9999;
         private static final int MOST_NOTS = 6;
         private static final int MOST_NESTED = 6;
 
@@ -1344,7 +1345,7 @@ public final class OpenSaying {
                 }
                 museum.rules.step(Rules.stepOfValue(value));
             } else {
-                if (!isNumberTo(Integer.MAX_VALUE)) {
+                if (!isNumberTo(MOST_NUMBER)) {
                     return false;
                 }
                 museum.rules.step(tokens.number());
@@ -1394,7 +1395,7 @@ public final class OpenSaying {
         }
 
         private boolean isToldNumber(int told) {
-            if (!isNumberTo(Integer.MAX_VALUE)) {
+            if (!isNumberTo(MOST_NUMBER)) {
                 return false;
             }
             return tokens.number() < told || refuse(NOT_TOLD);

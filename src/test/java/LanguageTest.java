@@ -10,6 +10,7 @@ import java.util.Set;
 import java.util.TreeSet;
 import java.util.regex.Matcher;
 import java.util.regex.Pattern;
+import java.util.stream.Collectors;
 
 /** The face of the class is the document's and no more, and its text keeps to LANGUAGE.md. */
 public final class LanguageTest {
@@ -29,6 +30,12 @@ public final class LanguageTest {
         "\\bObject\\b", "\\bString\\[\\]", "\" \\+", "\\+ \"", "\\bdouble\\b", "\\bfloat\\b", "\\bnull\\b",
         "static \\{", "\\bwhile \\(true\\)", "for \\(;;", "\\bthrow (?!new (NoSuchElement|IllegalArgument)Exception\\(\")");
 
+    // What the class needs of rule 4; another entry of that rule may be put here when it is needed.
+    private static final Set<String> LIBRARY = Set.of("Integer.bitCount(", "Math.max(", "Math.min(", "Arrays.fill(",
+        "System.arraycopy(");
+    private static final Pattern OF_LIBRARY = Pattern.compile(
+        "\\b(?:Integer|Long|Short|Byte|Character|Boolean|Math|Arrays|System|String|StringBuilder|List|ArrayList)\\.\\w+\\(?");
+
     private static int wrong;
 
     private LanguageTest() {
@@ -36,6 +43,7 @@ public final class LanguageTest {
 
     public static void main(String[] args) throws Exception {
         faceIsTheDocuments();
+        faceIsThatWrittenThere();
         insideIsPrivate(OpenSaying.class);
         textKeepsToTheRules(Files.readString(Path.of("src/main/java/OpenSaying.java")));
         System.out.println(wrong + " rules broken");
@@ -68,6 +76,7 @@ public final class LanguageTest {
                 open.add(told(m));
             } else {
                 need(Modifier.isPrivate(m.getModifiers()), m + " is private");
+                need(!faceNames().contains(m.getName()), m + " bears no name of the face");
             }
         }
         need(open.equals(new TreeSet<>(FACE)), "the public methods are those of the document: " + open);
@@ -82,9 +91,36 @@ public final class LanguageTest {
                 && made[0].getParameterCount() == 0, "one public constructor");
     }
 
-    private static void insideIsPrivate(Class<?> outer) {
+    /** The same once more by the document's own lines, with what each call says that it throws. */
+    private static void faceIsThatWrittenThere() throws Exception {
+        Path path = Path.of("../shared/DOC.md");
+        if (!Files.exists(path)) {
+            return;
+        }
+        Set<String> written = new TreeSet<>();
+        Matcher m = Pattern.compile("^    public (\\w+ \\w+\\(.*\\).*);$", Pattern.MULTILINE).matcher(Files.readString(path));
+        while (m.find()) {
+            written.add(m.group(1).replaceAll("(int|boolean) \\w+(?=[,)])", "$1").replace(", ", ","));
+        }
+        Set<String> made = new TreeSet<>();
+        for (Method method : OpenSaying.class.getDeclaredMethods()) {
+            if (Modifier.isPublic(method.getModifiers())) {
+                String thrown = Arrays.stream(method.getExceptionTypes()).map(Class::getSimpleName)
+                        .collect(Collectors.joining(","));
+                made.add(told(method) + (thrown.isEmpty() ? "" : " throws " + thrown));
+            }
+        }
+        need(made.size() == FACE.size() && made.equals(written), "the face is as written: " + written + " and not " + made);
+    }
+
+    private static Set<String> faceNames() {
         Set<String> names = new TreeSet<>();
         FACE.forEach(f -> names.add(f.replaceAll(".* |\\(.*", "")));
+        return names;
+    }
+
+    private static void insideIsPrivate(Class<?> outer) {
+        Set<String> names = faceNames();
         Class<?>[] inside = outer.getDeclaredClasses();
         need(inside.length <= 11, "at most twelve classes");
         for (Class<?> c : inside) {
@@ -113,6 +149,10 @@ public final class LanguageTest {
         for (String forbidden : FORBIDDEN) {
             Matcher found = Pattern.compile(forbidden).matcher(code);
             need(!found.find(), "nowhere " + forbidden);
+        }
+        Matcher used = OF_LIBRARY.matcher(code);
+        while (used.find()) {
+            need(LIBRARY.contains(used.group()), "rule 4 lists " + used.group());
         }
         int begun = 0;
         String[] lines = text.split("\n");
